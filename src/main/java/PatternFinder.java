@@ -902,7 +902,7 @@ public final class PatternFinder {
             for (int step = 0; step < SLOTS; step++) {
                 int slot = (start + step) % SLOTS;
                 int kept = slots[slot] - 1;
-                if (!has(kept) || tables[kept] == table) {
+                if (kept < 0 || kept >= tables.length || tables[kept] == table) {
                     return slot;
                 }
             }

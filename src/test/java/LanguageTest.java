@@ -10,10 +10,10 @@ import java.util.regex.Pattern;
 /** What of LANGUAGE.md can be seen in the text of the class. The first argument is the path of its file. */
 public final class LanguageTest {
     private static final List<String> NOT_THERE = List.of(
-            "\\bimport\\b", "\\bpackage\\b", "\\btry\\b", "\\bcatch\\b", "\\bfinally\\b", "\\bassert\\b",
-            "\\bsynchronized\\b", "\\binstanceof\\b", "->", "::", "\\bvar\\b", "\\bhashCode\\b", "\\bequals\\b",
-            "\\btoString\\b", "Exact\\b", "\\bprotected\\b", "\\bSystem\\b", "\\bString\\b", "\\bstatic \\{",
-            "\\bwhile\\b", "\\bvolatile\\b", "\\bnative\\b", "[^\\x00-\\x7f]");
+            "\\bimport (?!java\\.util\\.(ArrayList|List|Arrays|Iterator|NoSuchElementException);)[^;]*", "\\bpackage\\b",
+            "\\btry\\b", "\\bcatch\\b", "\\bfinally\\b", "\\bassert\\b", "\\bsynchronized\\b", "->", "::",
+            "\\bvar\\b", "\\bhashCode\\b", "\\btoString\\(\\) *\\{", "Exact\\b", "\\bprotected\\b",
+            "\\bSystem\\.(?!arraycopy)\\w*", "\\bstatic \\{", "\\bvolatile\\b", "\\bnative\\b", "[^\\x00-\\x7f]");
     private static final int LONGEST_METHOD = 60;
 
     public static void main(String[] args) throws IOException {

@@ -518,8 +518,13 @@ public final class PromiseTest {
         }
         due(23, "a thirteenth", outcome(() -> x.push(1, 0)), STATE);
         due(23, "a wrong kind on a full pile", outcome(() -> x.push(7, 0)), ARGUMENT);
+        due(24, "OPTION on a full pile", x.wrap(3), 2);
+        due(28, "cost on a full pile", x.topCost(), 2);
+        due(29, "matching on a full pile", x.topMatches(0), true);
+        due(30, "wrong ones on a full pile", x.topWrong(), 0);
         due(23, "a wrong letter on a full pile", outcome(() -> x.push(2, 0)), ARGUMENT);
-        due(27, "still twelve", x.pop(), 11);
+        due(25, "CHAIN on a full pile", x.join(5), 4);
+        due(27, "eleven, and one less", x.pop(), 10);
     }
 
     private static void wrap() {
