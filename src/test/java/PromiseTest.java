@@ -1,17 +1,6 @@
 /** Each promise of the document by hand: ordinary inputs, the edges that it names, and wrong inputs. */
-public final class PromiseTest {
-    /** A call whose answer, or whose exception, is looked at. */
-    private interface Call {
-        Object run();
-    }
-
-    private static final Class<?> STATE = IllegalStateException.class;
-    private static final Class<?> ARGUMENT = IllegalArgumentException.class;
-    private static final Class<?> INDEX = IndexOutOfBoundsException.class;
+public final class PromiseTest extends Checks {
     private static final String[] SIXTY = {"cacbba", "ccbcab", "cbccab", "acbcac", "acacca", "cccabc"};
-
-    private static int asked = 0;
-    private static int wrong = 0;
 
     public static void main(String[] args) {
         newObject();
@@ -43,10 +32,7 @@ public final class PromiseTest {
         topWrong();
         digest();
         nothingFound();
-        System.out.println("PromiseTest: " + asked + " answers, " + wrong + " wrong");
-        if (wrong != 0) {
-            System.exit(1);
-        }
+        end("PromiseTest");
     }
 
     // ---- promise 1
@@ -741,49 +727,7 @@ public final class PromiseTest {
         due(26, "nothing is found", outcome(x::take), STATE);
     }
 
-    // ---- helpers
-
-    private static long w(String word) {
-        long number = 0;
-        for (int index = 0; index < word.length(); index++) {
-            number = number << 8 | word.charAt(index);
-        }
-        return number;
-    }
-
-    /** A finder with these examples; a blank parts two words, and a text without words is none. */
-    private static PatternFinder finder(String good, String bad) {
-        PatternFinder x = new PatternFinder();
-        for (String word : good.split(" ", -1)) {
-            x.add(w(word), true);
-        }
-        for (String word : bad.isEmpty() ? new String[0] : bad.split(" ", -1)) {
-            x.add(w(word), false);
-        }
-        return x;
-    }
-
-    private static PatternFinder found(String good, String bad) {
-        PatternFinder x = finder(good, bad);
-        if (x.look(60) < 1) {
-            due(11, "a pattern for " + good, "none", "one");
-        }
-        return x;
-    }
-
-    private static String text(PatternFinder x) {
-        StringBuilder text = new StringBuilder();
-        for (int index = 0; index < x.textSize(); index++) {
-            text.append((char) x.text(index));
-        }
-        return text.toString();
-    }
-
-    private static void wrapTimes(PatternFinder x, int times) {
-        for (int time = 0; time < times; time++) {
-            x.wrap(4);
-        }
-    }
+    // ---- helper
 
     private static long chain(long... numbers) {
         long d = 167;
@@ -791,21 +735,5 @@ public final class PromiseTest {
             d = d * 31 + number;
         }
         return d;
-    }
-
-    private static Object outcome(Call call) {
-        try {
-            return call.run();
-        } catch (RuntimeException e) {
-            return e.getClass();
-        }
-    }
-
-    private static void due(int promise, String what, Object got, Object want) {
-        asked++;
-        if (!got.equals(want)) {
-            wrong++;
-            System.out.println("promise " + promise + ", " + what + ": answered " + got + ", due is " + want);
-        }
     }
 }
