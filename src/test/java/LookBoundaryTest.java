@@ -18,6 +18,7 @@ public final class LookBoundaryTest extends Checks {
         sameTables();
         hundredAndTwentyKept();
         noMorePatterns();
+        sixtyPieces();
         keptBetweenLooks();
         callsThatForget();
         callsThatDoNotForget();
@@ -218,6 +219,25 @@ public final class LookBoundaryTest extends Checks {
         due(12, "nothing costs 10 to 17", x.kept(), 3);
         looked(x, 18, -1);
         due(12, "a? and a*", x.kept(), 5);
+    }
+
+    /** The most pieces that there can be, the last of them among those that count. */
+    private static void sixtyPieces() {
+        PatternFinder x = finder("cacbba ccbcab cbccab acbcac acacca cccabc", "", 3, 8, 1, 1, 1, 5, 3);
+        due(9, "pieces", x.pieceCount(), 60);
+        looked(x, 9, -1);
+        looked(x, 10, 10);
+        due(17, "all words", text(x), "(a|(b|c))*");
+        due(22, "all pieces", x.share(), 1.0);
+        due(12, "kept", x.kept(), 115);
+        PatternFinder y = finder("aaabab baabbb abaabb abbaaa aabbab bababb bbbaab aaaabb ababaa abbbbb", "");
+        due(9, "pieces of ten", y.pieceCount(), 60);
+        looked(y, 4, 4);
+        due(17, "all words of two letters", text(y), "(a|b)*");
+        due(22, "all pieces of ten", y.share(), 1.0);
+        y.mark(6, false);
+        due(10, "the bad one is the last piece", y.piece(59), w("bbbaab"));
+        due(11, "no pattern is right", y.look(4), -1);
     }
 
     private static void keptBetweenLooks() {
