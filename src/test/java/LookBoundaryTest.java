@@ -16,6 +16,7 @@ public final class LookBoundaryTest extends Checks {
         orderOfKinds();
         orderOfParts();
         sameTables();
+        partsThatAreKept();
         hundredAndTwentyKept();
         noMorePatterns();
         sixtyPieces();
@@ -173,6 +174,19 @@ public final class LookBoundaryTest extends Checks {
         due(12, "nothing, empty, a, a? and a* alone", same.kept(), 5);
         looked(same, 11, 11);
         due(12, "and aa", same.kept(), 6);
+    }
+
+    /** At each cost, a part is one of the patterns that are kept by then, and cheap enough, and no other. */
+    private static void partsThatAreKept() {
+        // NOTHING is dear, so that a part that is not there would show as the table of no piece
+        PatternFinder x = finder("a", "", 9, 1, 9, 9, 9, 1, 9);
+        for (int most = 1; most <= 8; most++) {
+            looked(x, most, -1);
+            due(12, "EMPTY, and no CHAIN of it, up to " + most, x.kept(), 1);
+        }
+        looked(x, 9, 9);
+        due(12, "NOTHING and a as well", x.kept(), 3);
+        due(17, "a", text(x), "a");
     }
 
     // ---- 120 patterns kept and one more

@@ -179,6 +179,16 @@ public final class RandomRunsTest {
 
     private void look() {
         int most = random.nextInt(4) == 0 ? random.nextInt(9) - 1 : random.nextInt(63);
+        look(most);
+        if (reference.kept == 120 && reference.found == null && random.nextInt(3) == 0) {
+            lookAtTheEdge();
+        }
+        if (reference.found != null && random.nextInt(10) == 0) {
+            textAsRegularExpression();
+        }
+    }
+
+    private void look(int most) {
         same("look(" + most + ")", () -> finder.look(most), () -> {
             if (most < 1 || most > 60) {
                 throw new IllegalArgumentException();
@@ -190,8 +200,14 @@ public final class RandomRunsTest {
             return answer;
         });
         same("kept()", finder::kept, () -> reference.kept);
-        if (reference.found != null && random.nextInt(10) == 0) {
-            textAsRegularExpression();
+    }
+
+    /** The least cost at which one more than 120 would have to be kept, and the one below, at which none has to. */
+    private void lookAtTheEdge() {
+        int edge = reference.endedAt;
+        look(edge);
+        if (edge > 1) {
+            look(edge - 1);
         }
     }
 

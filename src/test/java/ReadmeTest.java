@@ -63,7 +63,8 @@ public final class ReadmeTest {
         Path place = Files.createTempDirectory("readme");
         Path source = place.resolve("Example.java");
         Path compiled = place.resolve("Example.class");
-        Files.writeString(source, "public class Example { public static void main(String[] args) {\n" + example + "} }\n");
+        Files.writeString(source,
+                "public class Example { public static void main(String[] args) {\n" + example + "} }\n");
         int status = ToolProvider.getSystemJavaCompiler().run(null, null, null, "-proc:none", "-classpath",
                 System.getProperty("java.class.path"), "-d", place.toString(), source.toString());
         need(status == 0, "the example does not compile");

@@ -118,6 +118,8 @@ final class Reference {
     final List<Tree> pile = new ArrayList<>();
     Tree found;
     int kept;
+    // the cost at which the latest look ended
+    int endedAt;
 
     private static List<String> allWords() {
         List<String> all = new ArrayList<>();
@@ -203,6 +205,7 @@ final class Reference {
         Set<Set<String>> tables = new HashSet<>();
         kept = 0;
         for (int cost = 1; cost <= most; cost++) {
+            endedAt = cost;
             for (Tree tree : candidates(keptTrees, cost)) {
                 Set<String> table = table(tree, pieces);
                 if (tables.contains(table)) {

@@ -21,6 +21,7 @@ public final class WordsBoundaryTest extends Checks {
         noWordTwice();
         piecesFollowEachOther();
         piecesOfFewerExamples();
+        droppedWordsLeaveNothing();
         sixtyPieces();
         whichExceptionOfAdd();
         newObject();
@@ -215,6 +216,22 @@ public final class WordsBoundaryTest extends Checks {
         due(9, "pieces", x.pieceCount(), 3);
         due(10, "the empty word", x.piece(0), 0L);
         due(10, "b", x.piece(1), w("b"));
+    }
+
+    /** A finder from which a word was dropped is like one that never had it, in what it looks for as well. */
+    private static void droppedWordsLeaveNothing() {
+        PatternFinder x = finder("a ", "");
+        x.add(w("c"), true);
+        x.drop();
+        due(11, "too cheap for a?", x.look(1), -1);
+        due(12, "NOTHING, EMPTY and a; b and c are no pieces any more", x.kept(), 3);
+        for (String dropped : List.of("b", "c", "bc", "cab", "bbb", "abcabc", "cccccc")) {
+            PatternFinder y = finder("a ", "aa", 2, 1, 1, 1, 1, 1, 1);
+            y.add(w(dropped), false);
+            y.drop();
+            String like = Transcript.of(finder("a ", "aa", 2, 1, 1, 1, 1, 1, 1));
+            due(4, "what is left of " + dropped, Transcript.difference(Transcript.of(y), like), "none");
+        }
     }
 
     private static void sixtyPieces() {
